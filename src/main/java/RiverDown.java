@@ -1080,12 +1080,12 @@ public final class RiverDown {
     }
 
     /**
-     * VALUE and BEST. As no doing takes more than MOST_TAKEN half days, more than so many for each
-     * place still ahead change nothing, nor are fewer left than so many for each place passed take
-     * away: only the half days between are reckoned.
+     * VALUE and BEST, from the last place upwards. No doing takes more than MOST_TAKEN half days: so
+     * more than that for each place still ahead change nothing, and each place passed takes no more
+     * than that away. Only the half days between these two bounds are reckoned.
      */
     private static final class Planner {
-        private static final int ROW = MOST_HALF_DAYS + 1;
+        private static final int ROW = Doing.MOST_TAKEN * MOST_PLACES + 1;
 
         private final Journey journey;
         private final Cases cases = new Cases();

@@ -2,7 +2,7 @@ import java.util.Random;
 
 /** Runs of drawn calls, each call to the program and to Model: the answers must be alike. */
 public final class ModelTest {
-    private static final int RUNS = 900;
+    private static final int RUNS = 300;
     private static final String[] NAMES = {"fall", "rocks", "water", "deep", "looked", "load"};
     private static final String[] STRAYS = {"risk", "wet", "worth", "or", "and", "not", "fall", "x", "(", ")",
         ";", "+", "-", "*", "<", "=", "12345", "0", "#", "", "\t", "\u00e9", "A", "fallrocks", "7x"};
