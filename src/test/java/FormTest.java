@@ -122,6 +122,23 @@ public final class FormTest {
             count++;
         }
         checks.holds("loops are counted ones, but for one", count <= 1);
+        shortMethods(whole);
+    }
+
+    /** A method's closing bracket stands as far in as its first line. */
+    private void shortMethods(String whole) {
+        String[] lines = whole.split("\n");
+        Pattern head = Pattern.compile("^( {4,8})[\\w].*\\) \\{$");
+        for (int i = 0; i < lines.length; i++) {
+            Matcher method = head.matcher(lines[i]);
+            if (method.matches()) {
+                int end = i;
+                while (end < lines.length && !lines[end].equals(method.group(1) + "}")) {
+                    end++;
+                }
+                checks.holds(lines[i].trim() + " is short", end - i < 60);
+            }
+        }
     }
 
     /** All calls of a run share one room: 512 of the dearest make next to nothing. */
