@@ -282,14 +282,24 @@ final class TermsOfTexts extends Bench {
             faultAt(5, "risk " + name + "s;");
         }
         sentence("Terms", "risk, wet, worth, or, and, not are KEYS.");
-        for (String key : new String[] {"risk", "wet", "worth", "or", "and"}) {
-            faultAt(5, "risk " + key + ";");
-            faultAt(6, "risk -" + key + ";");
+        for (String key : new String[] {"risk", "wet", "worth", "or", "and", "not"}) {
+            standsIf(key.equals("risk"), 0, key + " 1;wet 1;worth 1;");
+            standsIf(key.equals("wet"), 7, "risk 1;" + key + " 1;worth 1;");
+            standsIf(key.equals("worth"), 13, "risk 1;wet 1;" + key + " 1;");
+            standsIf(false, 21, "risk 1;wet 1;worth 1;" + key + " 1;");
+            standsIf(key.equals("not"), 5, "risk " + key + " 1;wet 1;worth 1;");
+            standsIf(key.equals("or") || key.equals("and"), 7, "risk 1 " + key + " 1;wet 1;worth 1;");
+            standsIf(false, 6, "risk -" + key + " 1;wet 1;worth 1;");
+            standsIf(false, key.equals("not") ? 8 : 5, "risk " + key + ";wet 1;worth 1;");
         }
-        faultAt(8, "risk not;");
-        faultAt(6, "risk -not 1;");
-        faultAt(0, "or 1;");
-        faultAt(0, "not 1;");
+    }
+
+    private void standsIf(boolean so, int fault, String s) {
+        if (so) {
+            stands(s);
+        } else {
+            faultAt(fault, s);
+        }
     }
 
     /** 9999 * 9999 * 21 + 9999 * 4790 + 8416 is the greatest int. */

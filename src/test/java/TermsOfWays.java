@@ -222,6 +222,7 @@ final class TermsOfWays extends Bench {
         answers(6, "value", 0, 100);
         runs(12, 6, 0, 0, 9999);
         answers(59994, "value", 0, 600);
+        justBelowTheNext();
         fresh();
         places(2, 1);
         does("doing", CARRY, 0);
@@ -229,6 +230,15 @@ final class TermsOfWays extends Bench {
         answers(-1, "value", 0, 607);
         answers(0, "value", 0, 8);
         answers(2400, "value", 0, 608);
+    }
+
+    /** Sums that lack less than a millionth to the next whole number are cut all the same. */
+    private void justBelowTheNext() {
+        int[][] due = {{9, 5, 542, 2470}, {6, 5, 442, 2077}, {6, 6, 736, 4154}, {4, 6, 1649, 9502}};
+        for (int[] d : due) {
+            runs(d[0], d[1], 1, 0, d[2]);
+            answers(d[3], "value", 0, 100 * d[1]);
+        }
     }
 
     private void valueLessWets() {
