@@ -26,11 +26,16 @@ public final class FormTest {
             "int taken(int,int)");
     private static final List<String> CONSTANTS = List.of("NONE", "BAD", "STATE", "FULL", "NO");
 
+    private static final Path DOCUMENT = Path.of("../shared/DOC.md");
+
     private final Checks checks = new Checks();
 
     public static void main(String[] args) throws IOException {
         FormTest test = new FormTest();
         test.face();
+        if (Files.exists(DOCUMENT)) {
+            test.faceOfDocument(Files.readString(DOCUMENT));
+        }
         test.names();
         test.source(Files.readString(Path.of(args.length > 0 ? args[0] : "src/main/java/RiverDown.java")));
         test.room();
@@ -70,6 +75,26 @@ public final class FormTest {
         checks.due("STATE", RiverDown.STATE, -3);
         checks.due("FULL", RiverDown.FULL, -4);
         checks.due("NO", RiverDown.NO, -4611686018427387904L);
+    }
+
+    /** The face that the program is held against is the one that the document tells. */
+    private void faceOfDocument(String document) {
+        checks.begin("the document's face");
+        TreeSet<String> methods = new TreeSet<>();
+        Matcher told = Pattern.compile("(?m)^    public (int|long) (\\w+)\\(([^)]*)\\);$").matcher(document);
+        while (told.find()) {
+            String types = told.group(3).replaceAll(" \\w+, ", ",").replaceAll(" \\w+$", "");
+            methods.add(told.group(1) + " " + told.group(2) + "(" + types + ")");
+        }
+        checks.holds("its calls are those: " + methods, methods.equals(new TreeSet<>(FACE)));
+        Matcher constants = Pattern.compile("(?m)^    public static final (?:int|long) (.*);$").matcher(document);
+        List<String> names = new ArrayList<>();
+        while (constants.find()) {
+            for (String constant : constants.group(1).split(", ")) {
+                names.add(constant.substring(0, constant.indexOf(' ')));
+            }
+        }
+        checks.holds("its constants are those: " + names, names.equals(CONSTANTS));
     }
 
     /** No private method bears the name of a public one, in the classes inside neither. */
